@@ -160,6 +160,8 @@ public final class PromisesTest {
             "y:((((([1]=1)))))?0", "y:!p=1&!p=1&!p=1&!p=1&!p=1&!p=1&!p=1?[1]+[1]");
         faults(3, 8, "y:[[[[[[[1", "y:!!!!!!!p", "y:(((((((p", "y:!(!(!(!", "y:!(!(!([", "y:((((((!", "y:(((((([");
         faults(3, 10, "y:((((((p=[", "y:!!!!!!p=[");
+        faults(3, NONE, "y:p=1?[[[[[[1]]]]]]", "y:p=1?1;y:[[[[[[1]]]]]]");
+        faults(3, 12, "y:p=1?[[[[[[[1]]]]]]]");
     }
 
     private static void promise05Text() {
@@ -222,6 +224,8 @@ public final class PromisesTest {
         due("5: moves left", x.count(4), 5);
         due("5: the book on two places", x.says(0, 2), 1);
         due("5: roads are new", x.between(20, 2), 1);
+        x.tell(2, 1);
+        due("5: what was told of the other sill does not count", x.agree(), 1);
         due("5: a refused sill", Checks.text(x, 0, "n7"), NONE);
         due("5: changes nothing", x.count(0), 2);
     }
@@ -385,6 +389,8 @@ public final class PromisesTest {
         due("11: back to the left", x.move(1, 0), 0);
         due("11: what stands", x.count(6), 201);
         due("11: none left", x.move(0, 1), NONE);
+        due("11: none left, still", x.count(4), 0);
+        due("11: nothing is changed", x.count(6), 201);
         due("11: no sill", new FlowerPots().move(0, 1), NONE);
     }
 
@@ -436,9 +442,16 @@ public final class PromisesTest {
             x.take(i % 2);
             x.evening(0);
         }
+        x.put(2, 1);
         due("13: sixty at most", x.count(11), 60);
-        for (int left = 59; left >= 0; left--) {
+        due("13: the sixtieth", x.undo(), 59);
+        for (int left = 58; left >= 0; left--) {
             due("13: of sixty", x.undo(), left);
+            int moves = (34 + left) % 3;
+            int day = (34 + left) / 3;
+            due("13: moves left", x.count(4), 2 - moves);
+            due("13: the row", x.count(6), moves != 1 ? 0 : day % 2 == 0 ? 100 : 10);
+            due("13: the day", x.count(5), day);
         }
         due("13: the oldest ones are lost", x.undo(), NONE);
         due("13: the day behind which they lie", x.count(5), 11);
@@ -537,6 +550,25 @@ public final class PromisesTest {
         due("16: of the day that is", x.nearest(0, 0, true, 0), 2);
         x.evening(0);
         due("16: the next day", x.nearest(0, 0, true, 0), 1);
+        int[] lit = {5, 1, 3};
+        for (int from = 0; from < 3; from++) {
+            for (int to = 0; to < 3; to++) {
+                FlowerPots z = Checks.made("n3r1w0d1", "a=r..;b=.r.;c=..r");
+                Checks.text(z, 3, "y:p=0?5;y:p*2-1");
+                z.light(0);
+                z.put(from, 1);
+                int want = from == to ? 0 : lit[to] >= lit[from] ? 1 : 2;
+                due("16: from " + from + " to " + to, z.nearest(0, to, true, 0), want);
+            }
+        }
+        FlowerPots y = Checks.made("n2r0w1d1", "a=.w;b=w.");
+        Checks.text(y, 3, "y:s*[1-p]");
+        y.light(0);
+        y.put(0, 2);
+        due("16: a white one to less light", y.nearest(0, 0, true, 0), 2);
+        y.undo();
+        y.put(1, 2);
+        due("16: a white one to more light", y.nearest(0, 1, true, 0), 1);
     }
 
     private static void promise17Sayable() {
@@ -625,6 +657,10 @@ public final class PromisesTest {
             slow.evening(0);
         }
         due("19: days to come go on beyond sixty", slow.soonest(0, 0), 3);
+        FlowerPots long60 = Checks.made("n5r5w5d1", "a=rrrrr;b=wwwww;c=.....");
+        words(long60, "abababc", "abababcc");
+        due("19: sixty days", long60.soonest(0, 0), 60);
+        due("19: sixty-one days", long60.soonest(0, 1), NONE);
     }
 
     // ---------------------------------------------------------------- the aunt, slips
@@ -725,6 +761,10 @@ public final class PromisesTest {
         due("24: no sill", new FlowerPots().both(0, 0, 0, 0, 0), NONE);
         x.put(0, 1);
         due("24: what stands", x.both(0, 0, 1, 1, 0), 0);
+        Checks.text(x, 3, "y:p");
+        x.light(0);
+        x.move(0, 2);
+        due("24: by any moves, whatever the light", x.both(0, 0, 1, 1, 0), 1);
     }
 
     // ---------------------------------------------------------------- seen and told
@@ -862,6 +902,11 @@ public final class PromisesTest {
         due("30: place 0 is bit 0, the least", y.apart(), 1);
         y.tell(10001, 2);
         due("30: the first and the last", y.apart(), 17);
+        FlowerPots z = Checks.made("n3");
+        z.tell(0, 0);
+        z.tell(11, 1);
+        z.tell(102, 2);
+        due("30: place 2 alone, not places 0 and 1", z.apart(), 4);
         due("30: no sill", new FlowerPots().apart(), NONE);
     }
 
