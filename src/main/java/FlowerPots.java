@@ -456,13 +456,13 @@ public final class FlowerPots {
     /** The nearest row that says a letter by one book and two by another one. */
     public int both(int book, int letter, int other, int two, int what) {
         Book by = bookOf(book);
-        Book by2 = bookOf(other);
-        if (by == null || by2 == null || !isLetter(letter) || !isLetterOrNothing(two)
+        Book byOther = bookOf(other);
+        if (by == null || byOther == null || !isLetter(letter) || !isLetterOrNothing(two)
             || !isHalf(what)) {
             return NONE;
         }
         lookFromNow(false);
-        return nearestOf(by, letter, by2, two, what);
+        return nearestOf(by, letter, byOther, two, what);
     }
 
     // ---------------------------------------------------------------- seen and told
