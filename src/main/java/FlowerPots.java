@@ -1620,13 +1620,12 @@ public final class FlowerPots {
 
         /** A word said at once: how many moves (0), the first row (1). */
         int atOnce(Book book, Numbers letters, int what) {
+            // Behind the last letter it costs nothing to stay.
             here.setAll(0);
             for (int i = letters.length() - 1; i >= 0; i--) {
-                boolean last = i == letters.length() - 1;
                 for (int code = 0; code < rows.many(); code++) {
                     boolean said = window.stands(code) && book.letterOf(code) == letters.get(i);
-                    int rest = last ? 0 : cheapest(code);
-                    there.set(code, said ? rest : TOO_DEAR);
+                    there.set(code, said ? cheapest(code) : TOO_DEAR);
                 }
                 here.takeOver(there);
             }
