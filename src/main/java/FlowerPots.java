@@ -1507,7 +1507,7 @@ public final class FlowerPots {
                 found.set(from, 0);
                 queue.add(from);
             }
-            for (int head = 0; head < queue.length(); head++) {
+            for (int head = 0; head < Rows.ROWS_MOST && head < queue.length(); head++) {
                 int code = queue.get(head);
                 for (int k = 0; k < rows.neighbors(code); k++) {
                     int to = rows.neighbor(code, k);

@@ -175,6 +175,11 @@ public final class AskBoundsTest {
         due("the most there are", five.between(11111, 22222), 10);
         due("back again", five.between(22222, 11111), 10);
         due("five", five.between(0, 12121), 5);
+        for (int i = 0; i < 2; i++) {
+            due("asked again: the same", five.between(1, 0), 1);
+            due("asked again: the same", five.between(0, 22222), 5);
+            due("asked again: the same", five.between(22222, 0), 5);
+        }
     }
 
     // ---------------------------------------------------------------- the nearest row
@@ -240,6 +245,24 @@ public final class AskBoundsTest {
         due("of several the least", x.nearest(1, 0, true, 1), 10);
         due("both against the light", x.nearest(1, 0, true, 0), 2);
         due("of several the least, by any moves", x.nearest(1, 0, false, 1), 10);
+        due("roads are by any moves, whatever was asked by light", x.between(1, 100), 1);
+        due("roads are by any moves, whatever was asked by light", x.between(100, 1), 1);
+        // Each two of five places, for either sort.
+        for (int from = 0; from < 5; from++) {
+            for (int to = 0; to < 5; to++) {
+                for (int sort = 1; sort <= 2; sort++) {
+                    StringBuilder signs = new StringBuilder(".....");
+                    signs.setCharAt(to, " rw".charAt(sort));
+                    FlowerPots y = Checks.made("n5r1w1d1", "a=" + signs);
+                    Checks.text(y, 3, "y:s=1?p;y:0-p");
+                    y.light(0);
+                    y.put(from, sort);
+                    int right = sort == 1 ? to - from : from - to;
+                    due("from " + from + " to " + to + ", sort " + sort, y.nearest(0, 0, true, 0),
+                        right == 0 ? 0 : right > 0 ? 1 : 2);
+                }
+            }
+        }
     }
 
     /** "letters (bits) that some ROW that can STAND SAYS" */

@@ -34,6 +34,7 @@ public final class TextBoundsTest {
         textRefused();
         textLimits();
         textOfSills();
+        sillsBehindSills();
         lastCall();
         Checks.end("TextBoundsTest");
     }
@@ -213,6 +214,9 @@ public final class TextBoundsTest {
                 due(told + "nothing at all", x.says(1, 0), NONE);
             }
         }
+        FlowerPots narrow = Checks.made("n3", "a=?????", "b=??");
+        due("a narrow book behind a wide one", narrow.says(1, 220), 1);
+        due("a narrow book behind a wide one", narrow.says(1, 1), NONE);
         // BOOKS are told anew of another SILL.
         FlowerPots x = Checks.made("n5", "a=rr?");
         due("on five places", x.says(0, 11200), 0);
@@ -422,6 +426,12 @@ public final class TextBoundsTest {
         worth("y:p=4&s=2|n=5?1;y:2", 1);
         worth("y:!p=4&s=1?1;y:2", 2);
         worth("y:!(p=4&s=1)?1;y:2", 1);
+        FlowerPots x = Checks.made("n2");
+        Checks.text(x, 3, "y:p=1?5");
+        x.light(0);
+        for (int i = 0; i < 4; i++) {
+            due("each place by itself", x.lightAt(i % 2, 1), i % 2 == 1 ? 5 : 0);
+        }
         // Many CLAUSES, as far as the TAPE goes.
         worth("y:0=1?1;".repeat(14) + "y:6", 6);
         goesOn(3, "y:0=1?1;".repeat(14) + "y:6", DIGITS + "+-*/=<>;");
@@ -694,6 +704,66 @@ public final class TextBoundsTest {
         due("roads of five places and more pots", x.between(0, 22), 2);
         due("roads of five places and more pots", x.between(0, 22222), 5);
         due("roads of five places and more pots", x.between(12, 11111), 5);
+    }
+
+    /** A SILL behind another one, larger or smaller, answers as on a new object. */
+    private static void sillsBehindSills() {
+        String[] sills = {"n2r1w0d1", "n3r1w2d2", "n5r3w4d5", "n4r5w1d3", "n5r0w2d1"};
+        for (String one : sills) {
+            for (String other : sills) {
+                FlowerPots x = lived(one);
+                due("text(0)", Checks.text(x, 0, other), other.charAt(1) - '0');
+                FlowerPots y = Checks.made(other, "h=.w;c=ww;a=?r", "a=????w;h=r.", "b=.....;h=??.w?");
+                Checks.text(y, 2, "bh");
+                Checks.text(y, 3, "y:d+1-p*s");
+                due(other + " behind " + one, answers(x).equals(answers(y)), true);
+            }
+        }
+    }
+
+    private static FlowerPots lived(String sill) {
+        FlowerPots x = Checks.made(sill, "h=.w;c=ww;a=?r", "a=????w;h=r.", "b=.....;h=??.w?");
+        Checks.text(x, 2, "bh");
+        Checks.text(x, 3, "y:d+1-p*s");
+        x.light(0);
+        x.see(6, 1, 1);
+        answers(x);
+        x.image();
+        x.drawn(4, 1);
+        x.put(0, 1);
+        x.see(2, x.count(0) - 1, 1);
+        x.see(1, 0, 2);
+        x.tell(10, 7);
+        return x;
+    }
+
+    /** What the three books, the word and the light make of a sill on which nothing was done yet. */
+    private static String answers(FlowerPots x) {
+        StringBuilder all = new StringBuilder();
+        x.light(0);
+        x.put(1, 1);
+        x.see(2, 0, 2);
+        x.tell(1, 2);
+        x.tell(12, 3);
+        for (int book = 0; book < 3; book++) {
+            all.append(x.sayable(book)).append(' ').append(x.gap(book)).append(' ');
+            all.append(x.word(book, 0, 0)).append(' ').append(x.soonest(book, 0)).append(' ');
+            for (int letter = 0; letter <= 7; letter += letter == 0 ? 2 : 5) {
+                all.append(x.nearest(book, letter, true, 0)).append(' ').append(x.nearest(book, letter, false, 1));
+                all.append(' ').append(x.safe(book, letter, NONE)).append(' ').append(x.aunt(book, letter, 0));
+                all.append(' ').append(x.likely(book, 2, 1, letter)).append(' ');
+                all.append(x.both(book, letter, 2 - book, NONE, 1)).append(' ');
+            }
+            for (int row : new int[] {0, 2, 20, 102, 20010}) {
+                all.append(x.says(book, row)).append(' ').append(x.read(book, row)).append(' ');
+                all.append(x.between(row, 0)).append(' ');
+            }
+        }
+        all.append(x.ways(3)).append(' ').append(x.agree()).append(' ').append(x.apart());
+        for (int what = 0; what < 14; what++) {
+            all.append(' ').append(x.count(what));
+        }
+        return all.toString();
     }
 
     /** "An object is used for at most 512 calls after it has been made" */
