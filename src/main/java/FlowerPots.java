@@ -1543,11 +1543,8 @@ public final class FlowerPots {
             return found.get(code);
         }
 
-        /** The fewest of all moves; FAR: a row can't stand. */
+        /** The fewest of all moves between two rows of the sill; FAR: one of them can't stand. */
         int steps(int from, int to) {
-            if (!window.stands(from) || !window.stands(to)) {
-                return FAR;
-            }
             if (known.get(from) == 0) {
                 search(from, false);
                 pack(from);
@@ -1726,7 +1723,8 @@ public final class FlowerPots {
                     boolean asked = book == null || k != day || book.letterOf(to) == letter;
                     waysThere[to] = asked && wasSeen(k, to) ? waysTo(to, movesOf(k)) : 0;
                 }
-                System.arraycopy(waysThere, 0, waysHere, 0, Rows.ROWS_MOST);
+                int most = Math.min(waysThere.length, waysHere.length);
+                System.arraycopy(waysThere, 0, waysHere, 0, most);
             }
             long sum = 0;
             for (int code = 0; code < rows.many() && code < waysHere.length; code++) {
